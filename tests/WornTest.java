@@ -175,6 +175,12 @@ public final class WornTest {
         due("child 0", x.deal(0, 10), 2);
         due("child 1", x.deal(0, 11), 0);
         due("child 2", x.deal(0, 12), 1);
+        // Child 0 has the first, though child 1 is cold for it: child 2 is warm by the other.
+        x = Check.told("child 12 0 0;child 10 0 0;child 14 0 0;coat plain 12 5;coat plain 14 5;");
+        due("warm", x.deal(0, 0), 2);
+        due("child 0", x.deal(0, 10), 0);
+        due("child 1", x.deal(0, 11), -4);
+        due("child 2", x.deal(0, 12), 1);
         // What is kept for a child, or can be let out, counts too.
         x = Check.told("child 10 0 0;child 10 0 0;coat kept 1 10 5;coat let 8 5;");
         due("let", x.deal(0, 10), 1);

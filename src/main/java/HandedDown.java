@@ -1287,11 +1287,21 @@ public final class HandedDown {
                 return true;
             }
             got[other] = NONE;
-            if (left == NONE || findThing(other, settled | 1 << t)) {
+            if (left == NONE || warmsOneBehind(c, settled | 1 << t)) {
                 return true;
             }
             give(other, t);
             give(c, left);
+            return false;
+        }
+
+        /** Any cold one does: who had to give a thing away need not be warm himself. */
+        private boolean warmsOneBehind(int c, int barred) {
+            for (int next = c + 1; next < childCount; next++) {
+                if (got[next] == NONE && findThing(next, barred)) {
+                    return true;
+                }
+            }
             return false;
         }
 
