@@ -1,9 +1,11 @@
 import java.util.Random;
 
-/** Long runs of calls, the class against the oracle; the seeds are fixed. */
+/** Runs of at most 512 calls, the class against the oracle; the seeds are fixed. */
 public final class OracleTest {
     private static final Check CHECK = new Check("OracleTest");
-    private static final int RUNS = 400;
+    private static final int RUNS = 3000;
+    /** No step makes as many calls as are left to 512 behind this. */
+    private static final int LAST_STEP = 300;
 
     private final Random random;
     private final HandedDown x = new HandedDown();
@@ -11,12 +13,17 @@ public final class OracleTest {
     private final int run;
     /** Bodies lie near this size, so that much fits. */
     private final int around;
+    /** What most steps of the run are about. */
+    private final int theme;
     private String last = "";
+    private int calls = 0;
+    private boolean allIsNew = false;
 
     private OracleTest(int run) {
         this.run = run;
         random = new Random(7919L * run + 13);
         around = 1 + random.nextInt(40);
+        theme = random.nextInt(9);
     }
 
     public static void main(String[] args) {
@@ -30,14 +37,18 @@ public final class OracleTest {
 
     private void go() {
         tell(random.nextInt(4) == 0);
-        for (int call = 0; call < 300; call++) {
+        while (calls < LAST_STEP) {
             step();
+        }
+        if (calls > 512) {
+            throw new IllegalStateException("run " + run + " has " + calls + " calls");
         }
     }
 
     private void due(String call, long got, long want) {
         CHECK.due("run " + run + " " + call + " behind " + last, got, want);
         last = call;
+        calls++;
     }
 
     private int upTo(int n) {
@@ -87,14 +98,14 @@ public final class OracleTest {
             case 1: case 2: case 3: case 4:
                 int low = upTo(3);
                 return "child " + size() + " " + low + " " + Math.min(4, low + upTo(3));
-            case 5: case 6: case 7: case 8: case 9: return thingLine();
+            case 5: case 6: case 7: case 8: case 9: return thingLine(4);
             case 10: case 11: return "like " + upTo(5) + " " + upTo(6) + " " + upTo(10);
             default: return "mark " + size();
         }
     }
 
-    private String thingLine() {
-        String kind = new String[] {"plain", "turned", "let", "both", "kept " + upTo(4)}[upTo(5)];
+    private String thingLine(int heirs) {
+        String kind = new String[] {"plain", "turned", "let", "both", "kept " + upTo(heirs)}[upTo(5)];
         return (random.nextBoolean() ? "coat " : "boots ") + kind + " " + size() + " " + (1 + upTo(upTo(2) == 0 ? 3 : 9));
     }
 
@@ -106,13 +117,13 @@ public final class OracleTest {
             text.append("child ").append(size()).append(' ').append(low).append(' ')
                 .append(Math.min(4, low + upTo(3))).append(";");
         }
-        int things = upTo(11);
+        int things = 1 + upTo(10);
         for (int i = 0; i < things; i++) {
-            text.append(thingLine()).append(";");
+            text.append(thingLine(kids)).append(";");
         }
         int rest = upTo(4);
         for (int i = 0; i < rest; i++) {
-            text.append("like ").append(upTo(kids)).append(' ').append(upTo(things + 1)).append(' ').append(upTo(10)).append(';');
+            text.append("like ").append(upTo(kids)).append(' ').append(upTo(things)).append(' ').append(upTo(10)).append(';');
             text.append("mark ").append(size()).append(';');
         }
         return text.toString();
@@ -120,7 +131,7 @@ public final class OracleTest {
 
     private String oddText() {
         StringBuilder text = new StringBuilder();
-        int lines = upTo(25);
+        int lines = upTo(3) == 0 ? 15 + upTo(15) : upTo(10);
         for (int i = 0; i < lines; i++) {
             text.append(line()).append(upTo(3) == 0 ? " ; " : ";");
         }
@@ -140,7 +151,8 @@ public final class OracleTest {
     private void tell(boolean odd) {
         String signs = odd ? oddText() : wholeText();
         if (signs.length() > 400) {
-            signs = signs.substring(0, signs.lastIndexOf(';', 399) + 1);
+            signs = signs.substring(0, 400);
+            signs = signs.substring(0, signs.lastIndexOf(';') + 1);
         }
         due("end(0)", x.end(0), o.end(0));
         for (int at = 0; at < signs.length(); at += 8) {
@@ -153,10 +165,10 @@ public final class OracleTest {
         due("end", x.end(signs.length()), o.end(signs.length()));
         due("text '" + signs + "'", x.text(), o.text());
         due("fault", x.fault(), o.fault());
-        state();
+        allIsNew = true;
     }
 
-    /** All that can be asked of what stands. */
+    /** Most of what can be asked of what stands, the likings of one child alone. */
     private void state() {
         for (int what = 0; what < 8; what++) {
             due("count " + what, x.count(what), o.count(what));
@@ -165,11 +177,12 @@ public final class OracleTest {
             for (int what : new int[] {0, 1, 2, 10, 11}) {
                 due("child " + c + " " + what, x.child(c, what), o.child(c, what));
             }
-            for (int t = 0; t < o.w.items.size(); t++) {
-                int v = o.w.kids.get(c).likes[t];
-                due("like " + c + " " + t, x.like(c, t, v), v);
-                due("fits " + c + " " + t, x.fits(c, t), o.fits(c, t));
-            }
+        }
+        int one = o.w.kids.isEmpty() ? 0 : upTo(o.w.kids.size());
+        for (int t = 0; t < o.w.items.size() && !o.w.kids.isEmpty(); t++) {
+            int v = o.w.kids.get(one).likes[t];
+            due("like " + one + " " + t, x.like(one, t, v), v);
+            due("fits " + one + " " + t, x.fits(one, t), o.fits(one, t));
         }
         for (int t = 0; t < o.w.items.size(); t++) {
             for (int what = 0; what < 8; what++) {
@@ -182,18 +195,19 @@ public final class OracleTest {
     // ---- calls
 
     private void step() {
-        switch (upTo(10)) {
-            case 0: case 1: wearing(); break;
-            case 2: years(); break;
-            case 3: cutting(); break;
-            case 4: swapping(); break;
-            case 5: marking(); break;
-            case 6: imaging(); break;
-            case 7: sheeting(); break;
-            case 8: telling(); break;
+        switch (upTo(3) > 0 ? theme : upTo(9)) {
+            case 0: wearing(); break;
+            case 1: years(); break;
+            case 2: cutting(); break;
+            case 3: swapping(); break;
+            case 4: marking(); break;
+            case 5: imaging(); break;
+            case 6: sheeting(); break;
+            case 7: telling(); break;
             default: asking();
         }
-        if (upTo(12) == 0) {
+        if (allIsNew || upTo(40) == 0) {
+            allIsNew = false;
             state();
         }
     }
@@ -251,11 +265,33 @@ public final class OracleTest {
     private void swapping() {
         int c = c();
         int t = t();
+        int s = s();
         int v = about(10);
+        if (upTo(8) == 0) {
+            due("dress " + s, x.dress(s), o.dress(s));
+        }
+        due("wear " + c + " " + t, x.wear(c, t), o.wear(c, t));
         due("like " + c + " " + t + " " + v, x.like(c, t, v), o.like(c, t, v));
+        wantEachOthers(upTo(2));
         due("swap", x.swap(), o.swap());
         if (upTo(4) == 0) {
             due("settle", x.settle(), o.settle());
+        }
+    }
+
+    /** Two children who wear something come to like the other's, if they are found. */
+    private void wantEachOthers(int s) {
+        if (o.w.kids.isEmpty()) {
+            return;
+        }
+        int a = upTo(o.w.kids.size());
+        int b = upTo(o.w.kids.size());
+        int mine = o.w.kids.get(a).wears[s];
+        int yours = o.w.kids.get(b).wears[s];
+        if (mine >= 0 && yours >= 0) {
+            int v = 3 + upTo(7);
+            due("like " + a + " " + yours + " " + v, x.like(a, yours, v), o.like(a, yours, v));
+            due("like " + b + " " + mine + " " + v, x.like(b, mine, v), o.like(b, mine, v));
         }
     }
 
@@ -283,23 +319,23 @@ public final class OracleTest {
         int what = about(2);
         switch (upTo(8)) {
             case 0: due("keep " + k, x.keep(k), o.keep(k)); break;
-            case 1: due("back " + k, x.back(k), o.back(k)); state(); break;
+            case 1: due("back " + k, x.back(k), o.back(k)); allIsNew = true; break;
             default: due("lend " + k + " " + s + " " + what, x.lend(k, s, what), o.lend(k, s, what));
         }
     }
 
     private void sheeting() {
-        int k = about(4);
-        int lane = about(3);
+        int k = upTo(4) == 0 ? about(4) : 0;
+        int lane = upTo(4) == 0 ? about(3) : run % 3;
         int i = about(12);
-        int v = upTo(4) == 0 ? random.nextInt() : i % 2 == 0 ? upTo(2) : size();
+        int v = upTo(12) == 0 ? random.nextInt() : i % 2 == 0 ? upTo(2) : size();
         int n = upTo(3);
-        switch (upTo(6)) {
+        switch (upTo(16)) {
             case 0:
                 int cells = upTo(20) == 0 ? about(44) : 4 + upTo(10);
                 due("sheet " + k + " " + lane + " " + cells, x.sheet(k, lane, cells), o.sheet(k, lane, cells));
                 break;
-            case 1: case 2: case 3: due("lay " + k + " " + i + " " + v, x.lay(k, i, v), o.lay(k, i, v)); break;
+            case 1: case 2: case 3: case 4: case 5: case 6: case 7: case 8: case 9: due("lay " + k + " " + i + " " + v, x.lay(k, i, v), o.lay(k, i, v)); break;
             default:
                 int from = upTo(3) == 0 ? about(12) : 2 * upTo(6);
                 int many = upTo(20) == 0 ? about(11) : n;
