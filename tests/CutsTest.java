@@ -66,6 +66,17 @@ public final class CutsTest {
         x = Check.told("child 10 0 0;coat plain 9 9;coat plain 1 9;");
         due("too small", x.pays(0, 1, false, 0), -4);
         due("nothing less", x.pays(1, 1, false, 0), -4);
+        x = Check.told("slack 0;child 1 0 0;coat plain 9 9;boots plain 2 9;");
+        due("down to 1", x.pays(0, 1, false, 0), 1);
+        due("down to 1", x.pays(1, 1, false, 0), 1);
+        // Slow 10, 10; quick 10, 14.
+        x = Check.told("child 10 0 4;boots plain 20 9;boots plain 10 9;");
+        due("slow", x.pays(0, 2, false, 0), -4);
+        due("quick", x.pays(0, 2, true, 0), 16);
+        due("quick new", x.pays(0, 2, true, 1), 0);
+        due("best slow", x.best(1, 2, false, 0), -4);
+        due("best quick", x.best(1, 2, true, 0), 16);
+        due("best of coats", x.best(0, 2, true, 0), -4);
         // Cut down to what can be let out later.
         x = Check.told("slack 0;child 10 1 1;coat let 30 9;");
         due("let", x.pays(0, 3, false, 0), 10);
@@ -223,6 +234,10 @@ public final class CutsTest {
         due("child 2", x.child(2, 10), 1);
         due("who wears it", x.thing(0, 7) + 10 * x.thing(1, 7) + 100 * x.thing(2, 7), 21);
         due("none is left", x.swap(), -4);
+        x = Check.told("slack 4;child 10 0 0;child 10 0 0;coat plain 10 5;coat plain 14 5;like 0 1 1;like 1 0 1;");
+        x.wear(0, 0);
+        x.wear(1, 1);
+        due("by today's slack", x.settle(), 1);
         x = Check.told("child 10 0 0;child 10 0 0;coat plain 10 5;coat plain 10 5;boots plain 10 5;boots plain 10 5;"
             + "like 0 1 9;like 1 0 9;like 0 3 1;like 1 2 1;");
         for (int t = 0; t < 4; t++) {

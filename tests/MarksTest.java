@@ -106,6 +106,10 @@ public final class MarksTest {
     }
 
     private static void rowsOfAll() {
+        HandedDown z = Check.told("child 10 0 0;child 10 4 4;mark 10;mark 10;");
+        due("only the other way", z.rows(0), 1);
+        due("first", z.rows(10), 1);
+        due("second", z.rows(11), 0);
         HandedDown x = Check.told("child 10 0 0;".repeat(8) + "mark 10;".repeat(6));
         due("8 7 6 5 4 3", x.rows(0), 20160);
         for (int k = 0; k < 6; k++) {
@@ -199,6 +203,35 @@ public final class MarksTest {
         due("lent", y.lend(0, 0, 1), 0);
         y.spring(true);
         due("kept ones not", y.lend(0, 0, 0), 1);
+        // Two of the image's things and one here, the last of ten; boots this time.
+        y = Check.told("child 18 4 4;child 18 4 4;child 18 4 4;boots let 24 5;boots plain 24 5;");
+        y.keep(1);
+        y.cut(0, 1);
+        y.cut(1, 1);
+        y.spring(false);
+        for (int t = 2; t < 10; t++) {
+            y.sew(1, t == 9 ? 22 : t);
+        }
+        due("all are warm", y.lend(1, 1, 0), 0);
+        due("two are lent", y.lend(1, 1, 1), 2);
+        due("no coats", y.lend(1, 0, 0), 3);
+        y.slack(1);
+        due("24 is too large", y.lend(1, 1, 0), 2);
+        due("none is lent", y.lend(1, 1, 1), 0);
+        y.slack(4);
+        y.cut(9, 1);
+        due("two are warm", y.lend(1, 1, 0), 1);
+        due("two are lent", y.lend(1, 1, 1), 2);
+        y.sheet(0, 0, 0);
+        // By today's slack the image's own child takes what it would leave by another.
+        y = Check.told("slack 4;child 10 4 4;coat plain 14 5;");
+        y.keep(0);
+        y.cut(0, 1);
+        y.spring(false);
+        due("the image's child has it", y.lend(0, 0, 0), 1);
+        y.slack(3);
+        due("the image's child can not", y.lend(0, 0, 0), 0);
+        due("so it is lent", y.lend(0, 0, 1), 1);
         // The fewest: own things stay in use.
         y = Check.told("child 10 0 4;child 30 0 0;coat plain 14 5;coat plain 15 5;coat plain 30 5;coat plain 31 5;");
         y.keep(0);

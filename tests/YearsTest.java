@@ -57,6 +57,9 @@ public final class YearsTest {
         x.wear(0, 0);
         x.slack(3);
         due("too large by now", x.spring(false), 1);
+        x.slack(4);
+        x.wear(0, 0);
+        due("by today's slack", x.spring(false), 0);
     }
 
     private static void aheads() {
@@ -75,6 +78,8 @@ public final class YearsTest {
         for (int k = 0; k < 4; k++) {
             due("quick " + k, x.ahead(0, 4, true, 10 + k), quick[k]);
         }
+        due("boots", x.ahead(1, 4, false, 0), 6);
+        due("boots quick", x.ahead(1, 4, true, 0), 7);
         due("nothing has changed", x.child(0, 0) * 100 + x.child(1, 0), 1009);
         due("nothing is put on", x.cold(0), 3);
         due("no wear", x.thing(0, 4), 0);
@@ -120,8 +125,16 @@ public final class YearsTest {
         due("lasts as told", x.thing(0, 3), 1);
         x = Check.told("child 10 0 4;coat plain 10 1;child 30 0 0;coat plain 30 5;");
         due("those that have more keep it", x.strong(0, 4, false), 4);
+        due("the other slot", x.strong(1, 4, false), -4);
         due("by no such one", x.strong(0, 2, true), -4);
         due("by no boots", x.strong(1, 1, true), -4);
+        HandedDown z = Check.told("child 10 0 0;boots plain 10 8;");
+        z.wear(0, 0);
+        for (int i = 0; i < 8; i++) {
+            z.winter();
+        }
+        due("9 winters in all", z.strong(1, 1, false), 9);
+        due("10 are too many", z.strong(1, 2, false), -4);
         due("y 0", x.strong(0, 0, false), -1);
         due("y 5", x.strong(0, 5, false), -1);
         due("s 2", x.strong(2, 1, false), -1);

@@ -588,6 +588,7 @@ public final class HandedDown {
     /** From the greatest size down, and only by fewer, so that of equals the first stays. */
     private void tryCuts(int t, int y, boolean quick) {
         int slot = now.things[t].slot;
+        int smallest = now.smallestSize();
         for (int size = now.things[t].size - 1; size >= 1 && bestNew > 0; size--) {
             trial.becomeBodies(now);
             trial.things[t].size = size;
@@ -596,6 +597,10 @@ public final class HandedDown {
                 bestNew = found;
                 bestThing = t;
                 bestSize = size;
+            }
+            // Nobody shrinks: what is too small for all now is so ever after, as is all that is less.
+            if (size + LET_BY < smallest) {
+                break;
             }
         }
     }
@@ -1019,6 +1024,14 @@ public final class HandedDown {
                 marks[markCount] = (byte) size;
                 markCount++;
             }
+        }
+
+        int smallestSize() {
+            int smallest = LARGEST;
+            for (int c = 0; c < childCount; c++) {
+                smallest = Math.min(smallest, children[c].size);
+            }
+            return smallest;
         }
 
         int likingOf(int c, int t) {
