@@ -24,6 +24,8 @@ public final class HandedDown {
     private static final int MOST_LIKING = 9;
     private static final int MOST_YEARS = 4;
     private static final int LET_BY = 2;
+    /** From here on what is asked is told of each one: 10 of number 0, 11 of number 1. */
+    private static final int EACH = 10;
 
     private static final int PLAIN = 0;
     private static final int TURNED = 1;
@@ -38,6 +40,12 @@ public final class HandedDown {
     private static final int TOO_MANY = 5;
     private static final int MISSING = 6;
 
+    private static final int NO_FIT = 0;
+    private static final int FIT_AS_IS = 1;
+    private static final int FIT_LET_OUT = 2;
+
+    private static final int BY_FAULT = -10;
+    private static final int BY_SEWING = -20;
     private static final int NULL_FAULT = 1;
     private static final int INDEX_FAULT = 2;
     private static final int CAST_FAULT = 3;
@@ -90,11 +98,13 @@ public final class HandedDown {
         tape.length = 0;
         textFault = reader.problem;
         if (textFault != 0) {
-            return -10 - reader.place;
+            return BY_FAULT - reader.place;
         }
         now.becomeAll(trial);
         allowed = reader.toldSlack;
-        Arrays.fill(imaged, false);
+        for (int k = 0; k < IMAGES; k++) {
+            imaged[k] = false;
+        }
         return lines;
     }
 
@@ -110,8 +120,8 @@ public final class HandedDown {
             case 0: return now.children[c].size;
             case 1: return now.children[c].low;
             case 2: return now.children[c].high;
-            case 10: return now.wornBy(c, 0);
-            case 11: return now.wornBy(c, 1);
+            case EACH: return now.wornBy(c, 0);
+            case EACH + 1: return now.wornBy(c, 1);
             default: return BAD;
         }
     }
@@ -165,7 +175,7 @@ public final class HandedDown {
         if (!now.hasChild(c) || !now.hasThing(t)) {
             return BAD;
         }
-        if (now.fitOf(c, t, allowed) == 0) {
+        if (now.fitOf(c, t, allowed) == NO_FIT) {
             return STATE;
         }
         int before = now.wornBy(c, now.things[t].slot);
@@ -192,8 +202,8 @@ public final class HandedDown {
     }
 
     public int deal(int s, int what) {
-        int c = what - 10;
-        if (!isSlot(s) || !(isPair(what) || now.hasChild(c))) {
+        int c = what - EACH;
+        if (!isSlot(s) || !(isZeroOrOne(what) || now.hasChild(c))) {
             return BAD;
         }
         plan.make(now, s, allowed);
@@ -226,12 +236,12 @@ public final class HandedDown {
     }
 
     public int ahead(int s, int y, boolean quick, int what) {
-        if (!isSlot(s) || !isYears(y) || !(what == 0 || within(what - 10, 0, y - 1))) {
+        if (!isSlot(s) || !isYears(y) || !(what == 0 || within(what - EACH, 0, y - 1))) {
             return BAD;
         }
         trial.becomeBodies(now);
         int sum = newAhead(s, y, quick);
-        return what == 0 ? sum : newByYear[what - 10];
+        return what == 0 ? sum : newByYear[what - EACH];
     }
 
     public int strong(int s, int y, boolean quick) {
@@ -263,7 +273,7 @@ public final class HandedDown {
     }
 
     public int pays(int t, int y, boolean quick, int what) {
-        if (!now.hasThing(t) || !isYears(y) || !isPair(what)) {
+        if (!now.hasThing(t) || !isYears(y) || !isZeroOrOne(what)) {
             return BAD;
         }
         if (now.things[t].wearer != NONE) {
@@ -278,7 +288,7 @@ public final class HandedDown {
     }
 
     public int best(int s, int y, boolean quick, int what) {
-        if (!isSlot(s) || !isYears(y) || !isPair(what)) {
+        if (!isSlot(s) || !isYears(y) || !isZeroOrOne(what)) {
             return BAD;
         }
         startCuts(s, y, quick);
@@ -299,7 +309,7 @@ public final class HandedDown {
     }
 
     public int wish(int s, int y, boolean quick, int what) {
-        if (!isSlot(s) || !isYears(y) || !isPair(what)) {
+        if (!isSlot(s) || !isYears(y) || !isZeroOrOne(what)) {
             return BAD;
         }
         if (now.thingCount >= MOST_THINGS) {
@@ -343,7 +353,7 @@ public final class HandedDown {
     // ---- odds, marks, another village
 
     public long odds(int s, int what) {
-        if (!isSlot(s) || !isPair(what)) {
+        if (!isSlot(s) || !isZeroOrOne(what)) {
             return BAD;
         }
         int ways = 1 << now.childCount;
@@ -386,7 +396,7 @@ public final class HandedDown {
     }
 
     public int rows(int what) {
-        int k = what - 10;
+        int k = what - EACH;
         if (what != 0 && !within(k, 0, now.markCount - 1)) {
             return BAD;
         }
@@ -395,7 +405,7 @@ public final class HandedDown {
     }
 
     public int whose(int what) {
-        if (!isPair(what)) {
+        if (!isZeroOrOne(what)) {
             return BAD;
         }
         if (now.markCount == 0) {
@@ -406,7 +416,7 @@ public final class HandedDown {
     }
 
     public int lend(int k, int s, int what) {
-        if (!isImage(k) || !isSlot(s) || !isPair(what)) {
+        if (!isImage(k) || !isSlot(s) || !isZeroOrOne(what)) {
             return BAD;
         }
         if (!imaged[k]) {
@@ -451,7 +461,7 @@ public final class HandedDown {
             return BAD;
         }
         if (n < 0) {
-            return -10 - SIZE_FAULT;
+            return BY_FAULT - SIZE_FAULT;
         }
         sheets[k].renew(lane, n);
         return 1;
@@ -462,10 +472,10 @@ public final class HandedDown {
             return BAD;
         }
         if (sheets[k].isNothing()) {
-            return -10 - NULL_FAULT;
+            return BY_FAULT - NULL_FAULT;
         }
         if (!sheets[k].hasCell(i)) {
-            return -10 - INDEX_FAULT;
+            return BY_FAULT - INDEX_FAULT;
         }
         sheets[k].setCell(i, v);
         return 1;
@@ -483,7 +493,7 @@ public final class HandedDown {
             if (!from.hasCell(at) || !from.hasCell(at + 1)) {
                 met = INDEX_FAULT;
             } else if (sewRefusal(now.thingCount + i, from.cellAt(at), from.cellAt(at + 1)) != 0) {
-                return -20 - i;
+                return BY_SEWING - i;
             } else {
                 whole++;
             }
@@ -531,7 +541,7 @@ public final class HandedDown {
         return within(y, 1, MOST_YEARS);
     }
 
-    private static boolean isPair(int what) {
+    private static boolean isZeroOrOne(int what) {
         return what == 0 || what == 1;
     }
 
@@ -555,7 +565,9 @@ public final class HandedDown {
     }
 
     private int dressAll(Village village, int s) {
-        plan.make(village, s, allowed);
+        plan.begin(village, s, allowed);
+        plan.warmAll();
+        plan.putInOrder();
         village.undress(s);
         for (int c = 0; c < village.childCount; c++) {
             int t = plan.thingOf(c);
@@ -566,7 +578,7 @@ public final class HandedDown {
         return village.childCount - plan.warm;
     }
 
-    /** The trial is used up: it is y years older behind this. */
+    // The trial is used up by this: it is y years older then.
     private int newAhead(int s, int y, boolean quick) {
         int sum = 0;
         for (int k = 0; k < y && k < MOST_YEARS; k++) {
@@ -840,32 +852,29 @@ public final class HandedDown {
             } else if (tape.byteAt(start) == ';') {
                 token = STOP;
                 behind++;
-            } else if (isLetter(start)) {
+            } else if (isLetter(tape.byteAt(start))) {
                 token = NAME;
-                while (behind < tape.length && isLetter(behind)) {
+                while (behind < tape.length && isLetter(tape.byteAt(behind))) {
                     behind++;
                 }
             } else {
-                readNumber();
+                value = 0;
+                while (behind < tape.length && isFigure(tape.byteAt(behind))) {
+                    // The value of a number that is too long is never asked.
+                    value = value % 100 * 10 + tape.byteAt(behind) - '0';
+                    behind++;
+                }
+                int figures = behind - start;
+                token = figures == 1 || figures == 2 ? NUMBER : BROKEN;
             }
         }
 
-        private void readNumber() {
-            value = 0;
-            while (behind < tape.length && isFigure(behind)) {
-                // Of a number that is too long the value is not asked.
-                value = value % 100 * 10 + tape.byteAt(behind) - '0';
-                behind++;
-            }
-            token = within(behind - start, 1, 2) ? NUMBER : BROKEN;
+        private static boolean isLetter(int sign) {
+            return sign >= 'a' && sign <= 'z';
         }
 
-        private boolean isLetter(int at) {
-            return within(tape.byteAt(at), 'a', 'z');
-        }
-
-        private boolean isFigure(int at) {
-            return within(tape.byteAt(at), '0', '9');
+        private static boolean isFigure(int sign) {
+            return sign >= '0' && sign <= '9';
         }
 
         private boolean isNamed(String name) {
@@ -934,16 +943,15 @@ public final class HandedDown {
             return worn >= (twice ? 2 * lasts : lasts);
         }
 
-        /** 0 not, 1 as it is, 2 by letting out alone. */
         int fitFor(int c, int bodySize, int slack) {
             if (isWornOut() || (kind == KEPT && heir != c)) {
-                return 0;
+                return NO_FIT;
             }
             if (within(size, bodySize, bodySize + slack)) {
-                return 1;
+                return FIT_AS_IS;
             }
             boolean canBeLetOut = (kind == LET || kind == BOTH) && !letOut;
-            return canBeLetOut && within(size + LET_BY, bodySize, bodySize + slack) ? 2 : 0;
+            return canBeLetOut && within(size + LET_BY, bodySize, bodySize + slack) ? FIT_LET_OUT : NO_FIT;
         }
     }
 
@@ -951,8 +959,8 @@ public final class HandedDown {
     private static final class Village {
         private final Child[] children = new Child[MOST_CHILDREN];
         private final Thing[] things = new Thing[MOST_THINGS];
-        private final byte[] likings = new byte[MOST_CHILDREN * MOST_THINGS];
-        private final byte[] marks = new byte[MOST_MARKS];
+        private final int[] likings = new int[MOST_CHILDREN * MOST_THINGS];
+        private final int[] marks = new int[MOST_MARKS];
         private int childCount = 0;
         private int thingCount = 0;
         private int markCount = 0;
@@ -970,7 +978,7 @@ public final class HandedDown {
             childCount = 0;
             thingCount = 0;
             markCount = 0;
-            Arrays.fill(likings, (byte) 0);
+            Arrays.fill(likings, 0);
         }
 
         void becomeAll(Village other) {
@@ -1009,7 +1017,6 @@ public final class HandedDown {
             }
         }
 
-        /** Its number; FULL: there is no room for it. */
         int addPlain(int slot, int size, int lasts) {
             if (thingCount >= MOST_THINGS) {
                 return FULL;
@@ -1021,7 +1028,7 @@ public final class HandedDown {
 
         void addMark(int size) {
             if (markCount < MOST_MARKS) {
-                marks[markCount] = (byte) size;
+                marks[markCount] = size;
                 markCount++;
             }
         }
@@ -1039,7 +1046,7 @@ public final class HandedDown {
         }
 
         void setLiking(int c, int t, int v) {
-            likings[c * MOST_THINGS + t] = (byte) v;
+            likings[c * MOST_THINGS + t] = v;
         }
 
         int fitOf(int c, int t, int slack) {
@@ -1056,11 +1063,12 @@ public final class HandedDown {
         }
 
         void putOn(int c, int t, int slack) {
-            if (fitOf(c, t, slack) == 2) {
-                things[t].letOut = true;
-                things[t].size += LET_BY;
+            Thing taken = things[t];
+            if (taken.fitFor(c, children[c].size, slack) == FIT_LET_OUT) {
+                taken.letOut = true;
+                taken.size += LET_BY;
             }
-            things[t].wearer = c;
+            taken.wearer = c;
         }
 
         void undress(int slot) {
@@ -1091,7 +1099,6 @@ public final class HandedDown {
             return found;
         }
 
-        /** How many things are worn out by it. */
         int passWinter() {
             int wornOut = 0;
             for (int t = 0; t < thingCount; t++) {
@@ -1106,7 +1113,6 @@ public final class HandedDown {
             return wornOut;
         }
 
-        /** How many things are taken off. */
         int passSpring(boolean quick, int slack) {
             for (int c = 0; c < childCount; c++) {
                 children[c].grow(quick);
@@ -1114,7 +1120,7 @@ public final class HandedDown {
             int takenOff = 0;
             for (int t = 0; t < thingCount; t++) {
                 int c = things[t].wearer;
-                if (hasChild(c) && fitOf(c, t, slack) != 1) {
+                if (hasChild(c) && fitOf(c, t, slack) != FIT_AS_IS) {
                     things[t].wearer = NONE;
                     takenOff++;
                 }
@@ -1152,7 +1158,7 @@ public final class HandedDown {
         }
 
         private boolean bothWant(int a, int mine, int b, int yours, int slack) {
-            return fitOf(a, yours, slack) == 1 && fitOf(b, mine, slack) == 1
+            return fitOf(a, yours, slack) == FIT_AS_IS && fitOf(b, mine, slack) == FIT_AS_IS
                 && likingOf(a, yours) > likingOf(a, mine)
                 && likingOf(b, mine) > likingOf(b, yours);
         }
@@ -1176,6 +1182,7 @@ public final class HandedDown {
         private final int[] seeker = new int[2 * MOST_THINGS];
         private final int[] queue = new int[MOST_CHILDREN];
         private int childCount;
+        private int thingCount;
         private int warm;
 
         void make(Village village, int slot, int slack) {
@@ -1186,13 +1193,16 @@ public final class HandedDown {
 
         void begin(Village village, int slot, int slack) {
             childCount = village.childCount;
+            thingCount = village.thingCount;
             warm = 0;
             Arrays.fill(owner, NONE);
             for (int c = 0; c < childCount; c++) {
                 got[c] = NONE;
                 may[c] = 0;
-                for (int t = 0; t < village.thingCount; t++) {
-                    if (village.things[t].slot == slot && village.fitOf(c, t, slack) != 0) {
+                int size = village.children[c].size;
+                for (int t = 0; t < thingCount; t++) {
+                    Thing asked = village.things[t];
+                    if (asked.slot == slot && asked.fitFor(c, size, slack) != NO_FIT) {
                         may[c] |= 1 << t;
                     }
                 }
@@ -1200,10 +1210,11 @@ public final class HandedDown {
         }
 
         void addLent(Village village, Village lender, int lent, int slack) {
+            thingCount = MOST_THINGS + lender.thingCount;
             for (int c = 0; c < childCount; c++) {
                 int size = village.children[c].size;
                 for (int t = 0; t < lender.thingCount; t++) {
-                    if ((lent >> t & 1) == 1 && lender.things[t].fitFor(c, size, slack) != 0) {
+                    if ((lent >> t & 1) == 1 && lender.things[t].fitFor(c, size, slack) != NO_FIT) {
                         may[c] |= 1 << (MOST_THINGS + t);
                     }
                 }
@@ -1212,9 +1223,12 @@ public final class HandedDown {
 
         void warmAll() {
             for (int c = 0; c < childCount; c++) {
-                if (got[c] == NONE && findThing(c, 0)) {
-                    warm++;
+                int free = seekFree(0, 0);
+                if (free == NONE) {
+                    break;
                 }
+                passAlong(free);
+                warm++;
             }
         }
 
@@ -1222,7 +1236,6 @@ public final class HandedDown {
             return c >= 0 && c < childCount ? got[c] : NONE;
         }
 
-        /** Things of a slot that nobody was given, but for those that are worn out. */
         int leftOf(Village village, int slot, boolean keptToo) {
             int bits = 0;
             for (int t = 0; t < village.thingCount; t++) {
@@ -1235,30 +1248,33 @@ public final class HandedDown {
             return bits;
         }
 
-        /** A child with nothing gets a thing, if others can move on for it; nobody turns cold. */
-        private boolean findThing(int c, int barred) {
+        /** A free thing that makes one more warm, from the given child on, if others move on for it. */
+        private int seekFree(int from, int barred) {
+            int waiting = 0;
+            for (int c = from; c < childCount; c++) {
+                if (got[c] == NONE) {
+                    queue[waiting] = c;
+                    waiting++;
+                }
+            }
             int seen = barred;
-            int waiting = 1;
-            queue[0] = c;
             for (int next = 0; next < waiting; next++) {
-                int asking = queue[next];
-                int open = may[asking] & ~seen;
+                int open = may[queue[next]] & ~seen;
                 seen |= open;
-                while (open != 0) {
-                    int t = lowestOf(open);
-                    open &= open - 1;
-                    seeker[t] = asking;
-                    if (owner[t] == NONE) {
-                        passAlong(t);
-                        return true;
-                    }
-                    if (waiting < MOST_CHILDREN) {
-                        queue[waiting] = owner[t];
-                        waiting++;
+                for (int t = 0; t < thingCount; t++) {
+                    if ((open >> t & 1) == 1) {
+                        seeker[t] = queue[next];
+                        if (owner[t] == NONE) {
+                            return t;
+                        }
+                        if (waiting < MOST_CHILDREN) {
+                            queue[waiting] = owner[t];
+                            waiting++;
+                        }
                     }
                 }
             }
-            return false;
+            return NONE;
         }
 
         /** Each on the way takes what it sought and leaves what it had to the one before. */
@@ -1267,20 +1283,17 @@ public final class HandedDown {
             for (int step = 0; step < MOST_CHILDREN && t != NONE; step++) {
                 int c = seeker[t];
                 int left = got[c];
-                got[c] = t;
-                owner[t] = c;
+                give(c, t);
                 t = left;
             }
         }
 
-        private void putInOrder() {
+        void putInOrder() {
             int settled = 0;
             for (int c = 0; c < childCount; c++) {
                 int open = may[c] & ~settled;
-                while (open != 0) {
-                    int t = lowestOf(open);
-                    open &= open - 1;
-                    if (got[c] == t || canHave(c, t, settled)) {
+                for (int t = 0; t < thingCount; t++) {
+                    if ((open >> t & 1) == 1 && (got[c] == t || canHave(c, t, settled))) {
                         settled |= 1 << t;
                         break;
                     }
@@ -1300,7 +1313,13 @@ public final class HandedDown {
                 return true;
             }
             got[other] = NONE;
-            if (left == NONE || warmsOneBehind(c, settled | 1 << t)) {
+            if (left == NONE) {
+                return true;
+            }
+            // Any cold one does: who had to give the thing away need not be warm himself.
+            int free = seekFree(c + 1, settled | (1 << t));
+            if (free != NONE) {
+                passAlong(free);
                 return true;
             }
             give(other, t);
@@ -1308,32 +1327,18 @@ public final class HandedDown {
             return false;
         }
 
-        /** Any cold one does: who had to give a thing away need not be warm himself. */
-        private boolean warmsOneBehind(int c, int barred) {
-            for (int next = c + 1; next < childCount; next++) {
-                if (got[next] == NONE && findThing(next, barred)) {
-                    return true;
-                }
-            }
-            return false;
-        }
-
         private void give(int c, int t) {
             got[c] = t;
             owner[t] = c;
-        }
-
-        private static int lowestOf(int bits) {
-            return Integer.bitCount((bits & -bits) - 1);
         }
     }
 
     /** Who can have left the marks: rows are counted by the set of children used so far. */
     private static final class MarkRows {
         private final int[] fitting = new int[MOST_MARKS];
-        // How many ways there are to end a row behind each set of children.
+        // Behind one set of children a row can end in the same ways, whatever their order was.
         private final int[] endings = new int[1 << MOST_CHILDREN];
-        private final boolean[] reached = new boolean[1 << MOST_CHILDREN];
+        private final int[] reached = new int[1 << MOST_CHILDREN];
         private int childCount;
         private int markCount;
 
@@ -1368,14 +1373,14 @@ public final class HandedDown {
             int sum = 0;
             for (int c = 0; c < childCount; c++) {
                 if (canFollow(c, k, used)) {
-                    sum += endings[used | 1 << c];
+                    sum += endings[used | (1 << c)];
                 }
             }
             return sum;
         }
 
         private boolean canFollow(int c, int k, int used) {
-            return (fitting[k] & ~used & 1 << c) != 0;
+            return (fitting[k] & ~used & (1 << c)) != 0;
         }
 
         int howMany() {
@@ -1396,7 +1401,7 @@ public final class HandedDown {
 
         private int firstBehind(int used, int k) {
             for (int c = 0; c < childCount; c++) {
-                if (canFollow(c, k, used) && endings[used | 1 << c] > 0) {
+                if (canFollow(c, k, used) && endings[used | (1 << c)] > 0) {
                     return c;
                 }
             }
@@ -1414,14 +1419,14 @@ public final class HandedDown {
         }
 
         int lastOnes() {
-            Arrays.fill(reached, false);
-            reached[0] = true;
+            Arrays.fill(reached, 0);
+            reached[0] = 1;
             int bits = 0;
             for (int used = 0; used < 1 << childCount; used++) {
                 int k = Integer.bitCount(used);
-                for (int c = 0; c < childCount && reached[used] && k < markCount; c++) {
+                for (int c = 0; c < childCount && reached[used] == 1 && k < markCount; c++) {
                     if (canFollow(c, k, used)) {
-                        reached[used | 1 << c] = true;
+                        reached[used | (1 << c)] = 1;
                         bits |= k == markCount - 1 ? 1 << c : 0;
                     }
                 }
