@@ -77,6 +77,16 @@ public final class CutsTest {
         due("best slow", x.best(1, 2, false, 0), -4);
         due("best quick", x.best(1, 2, true, 0), 16);
         due("best of coats", x.best(0, 2, true, 0), -4);
+        // Slow 10, 14 and 20; quick 10, 14 and 20, 24: the size that pays depends on it.
+        x = Check.told("child 10 0 4;child 20 0 0;coat plain 30 9;coat plain 10 9;");
+        due("slow", x.pays(0, 2, false, 0), 22);
+        due("quick", x.pays(0, 2, true, 0), 22);
+        due("quick new", x.pays(0, 2, true, 1), 1);
+        x = Check.told("child 8 0 2;coat plain 30 9;");
+        due("slow: 10 is as good as less", x.pays(0, 4, false, 0), 10);
+        due("quick: 14 is", x.pays(0, 4, true, 0), 14);
+        due("best slow", x.best(0, 4, false, 0), 10);
+        due("best quick", x.best(0, 4, true, 0), 14);
         // Cut down to what can be let out later.
         x = Check.told("slack 0;child 10 1 1;coat let 30 9;");
         due("let", x.pays(0, 3, false, 0), 10);
@@ -201,6 +211,11 @@ public final class CutsTest {
         due("the lesser other one", x.swap(), 1);
         x.like(1, 1, 4);
         due("not more than his own", x.swap(), 2);
+        x.like(1, 1, 0);
+        x.like(0, 0, 4);
+        due("nor the other one", x.swap(), 112);
+        x.like(0, 0, 0);
+        due("the first again", x.swap(), 1);
         due("nothing is changed", x.child(0, 10), 0);
         x = Check.told("child 10 0 0;child 12 0 0;coat plain 12 5;coat plain 14 5;like 0 1 5;like 1 0 5;");
         x.wear(0, 0);

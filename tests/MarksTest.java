@@ -232,6 +232,24 @@ public final class MarksTest {
         y.slack(3);
         due("the image's child can not", y.lend(0, 0, 0), 0);
         due("so it is lent", y.lend(0, 0, 1), 1);
+        // Own things by today's slack.
+        y = Check.told("slack 4;child 10 0 0;coat plain 14 5;coat plain 10 5;");
+        y.keep(1);
+        due("none is lent", y.lend(1, 0, 1), 0);
+        y.cut(1, 9);
+        due("none is lent still", y.lend(1, 0, 1), 0);
+        due("nobody is cold", y.lend(1, 0, 0), 0);
+        y.slack(2);
+        due("now nobody is warm by the own one", y.lend(1, 0, 0), 1);
+        // Coats are lent by the image's deal of coats, whatever boots there are.
+        y = Check.told("child 10 2 2;coat plain 12 5;boots plain 12 5;boots plain 12 5;");
+        y.keep(0);
+        for (int t = 0; t < 3; t++) {
+            y.cut(t, 1);
+        }
+        due("the image's child has the coat", y.lend(0, 0, 0), 1);
+        due("one pair of boots is left", y.lend(0, 1, 0), 0);
+        due("one pair of boots is lent", y.lend(0, 1, 1), 1);
         // The fewest: own things stay in use.
         y = Check.told("child 10 0 4;child 30 0 0;coat plain 14 5;coat plain 15 5;coat plain 30 5;coat plain 31 5;");
         y.keep(0);

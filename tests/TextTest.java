@@ -170,6 +170,10 @@ public final class TextTest {
         CHECK.refused(x, ";", 2, 0);
         CHECK.refused(x, "5", 2, 0);
         CHECK.refused(x, "plain", 2, 0);
+        CHECK.refused(x, "z", 2, 0);
+        CHECK.refused(x, "a 1;", 2, 0);
+        CHECK.refused(x, "zlack 1;", 2, 0);
+        CHECK.refused(x, "mark 9 z", 2, 7);
         CHECK.refused(x, "slacks 1;", 2, 0);
         CHECK.refused(x, "slac 1;", 2, 0);
         CHECK.refused(x, "slack", 2, 5);

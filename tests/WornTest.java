@@ -190,6 +190,16 @@ public final class WornTest {
         due("let", x.deal(0, 10), 1);
         due("kept", x.deal(0, 11), 0);
         x.doff(0, 0);
+        // By today's slack.
+        x = Check.told("slack 4;child 10 0 0;child 10 0 0;coat plain 14 5;coat plain 13 5;coat plain 12 5;");
+        due("child 0", x.deal(0, 10), 0);
+        due("child 1", x.deal(0, 11), 1);
+        due("spare", x.spare(0), 4);
+        due("dress", x.dress(0), 0);
+        due("child 0", x.child(0, 10), 0);
+        x.slack(3);
+        due("child 0", x.deal(0, 10), 1);
+        due("spare", x.spare(0), 1);
         // Somebody else must be cold, if the first can be warm by it.
         x = Check.told("child 10 0 0;child 11 0 0;child 9 0 0;coat plain 11 5;");
         due("child 0", x.deal(0, 10), 0);
