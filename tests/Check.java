@@ -1,6 +1,7 @@
 /** Counts what is not as due, and puts a text on the tape. */
 final class Check {
     private final String test;
+    private int promise = 0;
     private int wrong = 0;
     private int asked = 0;
 
@@ -8,12 +9,30 @@ final class Check {
         this.test = test;
     }
 
+    /** What follows is of this promise of the document. */
+    void promise(int number) {
+        promise = number;
+    }
+
     void due(String call, long got, long want) {
         asked++;
         if (got != want) {
             wrong++;
-            System.out.println(test + ": " + call + " answered " + got + ", due is " + want);
+            System.out.println(where() + call + " answered " + got + ", due is " + want);
         }
+    }
+
+    /** Two texts that are due to be the same. */
+    void same(String call, String got, String want) {
+        asked++;
+        if (!got.equals(want)) {
+            wrong++;
+            System.out.println(where() + call + ": '" + got + "', due is '" + want + "'");
+        }
+    }
+
+    private String where() {
+        return test + (promise > 0 ? ", promise " + promise + ": " : ": ");
     }
 
     void close() {

@@ -18,6 +18,7 @@ public final class CutsTest {
     }
 
     private static void cuts() {
+        CHECK.promise(21);
         HandedDown x = Check.told("child 20 0 0;coat plain 20 5;coat plain 1 5;coat let 18 5;");
         due("no less", x.cut(0, 20), -1);
         due("more", x.cut(0, 21), -1);
@@ -43,6 +44,7 @@ public final class CutsTest {
     }
 
     private static void paying() {
+        CHECK.promise(22);
         HandedDown x = Check.told("child 10 0 0;child 5 1 1;coat plain 30 9;boots plain 10 9;coat plain 12 9;");
         // Child 0 has thing 2. Child 1 is 5, 6, 7, 8.
         due("y 1", x.pays(0, 1, false, 0), 7);
@@ -94,6 +96,7 @@ public final class CutsTest {
     }
 
     private static void bestCuts() {
+        CHECK.promise(23);
         HandedDown x = Check.told("child 10 0 0;child 5 0 0;coat plain 30 1;coat plain 40 9;coat plain 35 9;");
         due("two would do as well", x.best(0, 4, false, 0), 112);
         due("new", x.best(0, 4, false, 1), 4);
@@ -127,6 +130,7 @@ public final class CutsTest {
     }
 
     private static void sewing() {
+        CHECK.promise(24);
         HandedDown x = Check.told("child 10 0 0;coat let 10 5;");
         due("sew", x.sew(0, 1), 1);
         due("sew", x.sew(1, 40), 2);
@@ -162,6 +166,7 @@ public final class CutsTest {
     }
 
     private static void wishes() {
+        CHECK.promise(25);
         HandedDown x = Check.told("child 10 1 2;child 20 0 0;coat plain 20 9;");
         due("y 1", x.wish(0, 1, false, 0), 10);
         due("y 1 new", x.wish(0, 1, false, 1), 0);
@@ -191,6 +196,7 @@ public final class CutsTest {
     }
 
     private static void swaps() {
+        CHECK.promise(26);
         HandedDown x = Check.told("child 10 0 0;child 10 0 0;child 10 0 0;coat plain 10 5;coat plain 11 5;coat plain 12 5;"
             + "boots plain 10 5;boots plain 10 5;boots plain 10 5;");
         due("nobody wears anything", x.swap(), -4);
@@ -235,6 +241,7 @@ public final class CutsTest {
     }
 
     private static void settling() {
+        CHECK.promise(27);
         HandedDown x = Check.told("child 10 0 0;child 10 0 0;child 10 0 0;coat plain 10 5;coat plain 11 5;coat plain 12 5;"
             + "like 0 1 1;like 0 2 2;like 1 0 2;like 1 2 1;like 2 0 1;like 2 1 2;boots plain 10 5;boots plain 11 5;");
         due("none", x.settle(), 0);

@@ -25,6 +25,7 @@ public final class MarksTest {
     }
 
     private static void odds() {
+        CHECK.promise(28);
         HandedDown x = Check.told("child 10 1 3;child 10 0 2;coat plain 12 5;coat plain 13 5;");
         // 11 or 13, 10 or 12: of 12 and 13 each pair can have one each.
         odds(x, 0, 1, 1);
@@ -52,6 +53,7 @@ public final class MarksTest {
     }
 
     private static void marks() {
+        CHECK.promise(29);
         HandedDown x = new HandedDown();
         due("0", x.mark(0), -1);
         due("41", x.mark(41), -1);
@@ -60,6 +62,7 @@ public final class MarksTest {
         }
         due("full", x.mark(5), -3);
         due("bad ahead of full", x.mark(41), -1);
+        CHECK.promise(30);
         due("unmark -1", x.unmark(-1), -1);
         due("unmark 7", x.unmark(7), -1);
         due("unmark 6", x.unmark(6), 6);
@@ -73,6 +76,7 @@ public final class MarksTest {
     }
 
     private static void rows() {
+        CHECK.promise(31);
         HandedDown x = Check.told("child 10 1 4;child 10 0 0;child 9 2 2;mark 11;mark 11;");
         // Mark 0: 10, 10, 9 all may; mark 1: 11, 10, 11 all may.
         due("rows", x.rows(0), 6);
@@ -106,6 +110,7 @@ public final class MarksTest {
     }
 
     private static void rowsOfAll() {
+        CHECK.promise(31);
         HandedDown z = Check.told("child 10 0 0;child 10 4 4;mark 10;mark 10;");
         due("only the other way", z.rows(0), 1);
         due("first", z.rows(10), 1);
@@ -124,6 +129,7 @@ public final class MarksTest {
     }
 
     private static void whose() {
+        CHECK.promise(32);
         HandedDown x = Check.told("child 10 0 0;child 10 4 4;child 12 0 0;mark 10;mark 14;");
         // First 0 or 1; last 1 or 2.
         due("first", x.whose(0), 3);
@@ -148,6 +154,7 @@ public final class MarksTest {
     }
 
     private static void lending() {
+        CHECK.promise(33);
         HandedDown x = Check.told("child 10 0 0;coat plain 10 5;coat plain 11 5;coat let 10 5;boots plain 30 5;");
         due("there is none", x.lend(0, 0, 0), -2);
         due("bad ahead of it", x.lend(0, 2, 0), -1);
@@ -179,6 +186,7 @@ public final class MarksTest {
     }
 
     private static void lendingKinds() {
+        CHECK.promise(33);
         // The other village has five coats, one worn out, one of its child, one kept.
         HandedDown x = Check.told("child 20 4 4;coat plain 20 1;coat plain 20 5;coat let 22 5;coat kept 0 24 5;coat plain 24 5;");
         x.wear(0, 0);
@@ -267,6 +275,7 @@ public final class MarksTest {
     }
 
     private static void images() {
+        CHECK.promise(35);
         HandedDown x = new HandedDown();
         due("back 0", x.back(0), -2);
         due("back 1", x.back(1), -2);
@@ -289,6 +298,7 @@ public final class MarksTest {
     }
 
     private static void imagesHoldAll() {
+        CHECK.promise(34);
         HandedDown x = Check.told("child 10 1 2;child 20 0 0;coat let 8 5;boots plain 10 5;like 0 1 7;mark 5;mark 6;slack 3;");
         x.wear(0, 1);
         x.winter();

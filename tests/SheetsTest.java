@@ -22,6 +22,7 @@ public final class SheetsTest {
     }
 
     private static void making() {
+        CHECK.promise(36);
         HandedDown x = new HandedDown();
         due("k 4", x.sheet(4, 0, 1), -1);
         due("k -1", x.sheet(-1, 0, 1), -1);
@@ -49,6 +50,7 @@ public final class SheetsTest {
     }
 
     private static void laying() {
+        CHECK.promise(37);
         HandedDown x = new HandedDown();
         due("nothing", x.lay(3, 0, 1), -11);
         due("nothing ahead of index", x.lay(3, -1, 1), -11);
@@ -76,6 +78,7 @@ public final class SheetsTest {
     }
 
     private static void lanes() {
+        CHECK.promise(37);
         due("byte 256 + 7", sizeOf(0, 256 + 7), 7);
         due("byte 255", sizeOf(0, 255), -20);
         due("byte 128", sizeOf(0, 128), -20);
@@ -99,6 +102,7 @@ public final class SheetsTest {
     }
 
     private static void reading() {
+        CHECK.promise(38);
         HandedDown x = sheetOf(1, 0, 5, 1, 40, 0, 7);
         due("read 2", x.read(1, 1, 0, 2), 2);
         due("torn", x.torn(), 0);
@@ -119,6 +123,7 @@ public final class SheetsTest {
     }
 
     private static void readingPastTheEnd() {
+        CHECK.promise(38);
         HandedDown x = sheetOf(2, 0, 5, 1, 6, 0);
         due("read 3", x.read(1, 2, 0, 3), 2);
         due("index", x.torn(), 2);
@@ -146,6 +151,7 @@ public final class SheetsTest {
     }
 
     private static void readingTheWrongWay() {
+        CHECK.promise(38);
         HandedDown x = sheetOf(0, 0, 5);
         due("as shorts", x.read(1, 1, 0, 1), 0);
         due("cast", x.torn(), 3);
@@ -166,6 +172,7 @@ public final class SheetsTest {
     }
 
     private static void readingRefused() {
+        CHECK.promise(38);
         HandedDown x = sheetOf(2, 0, 5, 2, 6, 0, 41);
         due("second", x.read(1, 2, 0, 3), -21);
         due("none came", x.count(1), 0);
@@ -185,6 +192,7 @@ public final class SheetsTest {
     }
 
     private static void readingFull() {
+        CHECK.promise(38);
         HandedDown x = new HandedDown();
         x.sheet(2, 0, 40);
         for (int i = 0; i < 20; i++) {
@@ -217,6 +225,7 @@ public final class SheetsTest {
     }
 
     private static void readingNone() {
+        CHECK.promise(38);
         HandedDown x = sheetOf(2, 0, 5);
         x.read(0, 0, 0, 1);
         due("null", x.torn(), 1);
@@ -231,6 +240,7 @@ public final class SheetsTest {
     }
 
     private static void readBad() {
+        CHECK.promise(38);
         HandedDown x = sheetOf(2, 0, 5);
         due("k 4", x.read(4, 2, 0, 1), -1);
         due("k -1", x.read(-1, 2, 0, 1), -1);
@@ -244,6 +254,7 @@ public final class SheetsTest {
     }
 
     private static void counts() {
+        CHECK.promise(40);
         HandedDown x = Check.told("child 10 0 0;child 10 0 0;coat plain 10 1;coat turned 10 1;coat plain 10 9;mark 5;slack 4;");
         x.wear(0, 0);
         x.wear(1, 1);

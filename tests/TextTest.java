@@ -29,6 +29,7 @@ public final class TextTest {
     }
 
     private static void newObject() {
+        CHECK.promise(1);
         HandedDown x = new HandedDown();
         int[] counts = {0, 0, 0, 0, 0, 0, HandedDown.NONE, 2};
         for (int what = 0; what < counts.length; what++) {
@@ -63,6 +64,7 @@ public final class TextTest {
     }
 
     private static void feeding() {
+        CHECK.promise(2);
         HandedDown x = new HandedDown();
         for (int i = 1; i <= 50; i++) {
             due("feed " + i, x.feed(0x2020202020202020L), 8 * i);
@@ -88,6 +90,7 @@ public final class TextTest {
     }
 
     private static void ending() {
+        CHECK.promise(3);
         HandedDown x = new HandedDown();
         due("end 0 of nothing", x.end(0), 0);
         due("end 1 of nothing", x.end(1), -1);
@@ -104,6 +107,7 @@ public final class TextTest {
     }
 
     private static void takenTexts() {
+        CHECK.promise(4);
         HandedDown x = new HandedDown();
         CHECK.taken(x, "", 0);
         CHECK.taken(x, "        ", 0);
@@ -132,6 +136,7 @@ public final class TextTest {
     }
 
     private static void blanks() {
+        CHECK.promise(4);
         HandedDown x = new HandedDown();
         CHECK.taken(x, "   slack   3   ;  mark5;mark 6 ;mark 07;   ", 4);
         CHECK.taken(x, "child1 2 3;coat plain4 5;coat kept0 4 5;like0 0 0;", 4);
@@ -145,6 +150,7 @@ public final class TextTest {
     }
 
     private static void noTokens() {
+        CHECK.promise(4);
         HandedDown x = new HandedDown();
         CHECK.refused(x, ".", 1, 0);
         CHECK.refused(x, "   .", 1, 3);
@@ -166,6 +172,7 @@ public final class TextTest {
     }
 
     private static void misplacedTokens() {
+        CHECK.promise(4);
         HandedDown x = new HandedDown();
         CHECK.refused(x, ";", 2, 0);
         CHECK.refused(x, "5", 2, 0);
@@ -205,6 +212,7 @@ public final class TextTest {
     }
 
     private static void outOfBounds() {
+        CHECK.promise(4);
         HandedDown x = new HandedDown();
         CHECK.refused(x, "slack 5;", 3, 6);
         CHECK.refused(x, "child 0 1 1;", 3, 6);
@@ -226,6 +234,7 @@ public final class TextTest {
     }
 
     private static void slackAgain() {
+        CHECK.promise(4);
         HandedDown x = new HandedDown();
         CHECK.refused(x, "slack 1;slack 1;", 4, 8);
         CHECK.refused(x, "slack 1;mark 5;slack .", 4, 15);
@@ -233,6 +242,7 @@ public final class TextTest {
     }
 
     private static void tooMany() {
+        CHECK.promise(4);
         HandedDown x = new HandedDown();
         String child = "child 5 1 1;";
         CHECK.refused(x, child.repeat(9), 5, 96);
@@ -243,6 +253,7 @@ public final class TextTest {
     }
 
     private static void missing() {
+        CHECK.promise(4);
         HandedDown x = new HandedDown();
         CHECK.refused(x, "like 0 0 0;", 6, 11);
         CHECK.refused(x, "like 0 0 0;child 5 1 1;", 6, 23);
@@ -258,6 +269,7 @@ public final class TextTest {
     }
 
     private static void firstFaultCounts() {
+        CHECK.promise(4);
         HandedDown x = new HandedDown();
         CHECK.refused(x, "slack 9.", 3, 6);
         CHECK.refused(x, "coat kept 1 5 5;mark 0;", 3, 21);
@@ -267,6 +279,7 @@ public final class TextTest {
     }
 
     private static void refusedChangesNothing() {
+        CHECK.promise(4);
         HandedDown x = Check.told("slack 3;child 5 1 2;coat plain 5 5;like 0 0 7;mark 9;");
         x.wear(0, 0);
         x.keep(0);
@@ -284,6 +297,7 @@ public final class TextTest {
     }
 
     private static void takenTellsAll() {
+        CHECK.promise(4);
         HandedDown x = Check.told("slack 3;child 5 1 2;coat plain 5 5;like 0 0 7;mark 9;");
         x.wear(0, 0);
         x.winter();
@@ -315,6 +329,7 @@ public final class TextTest {
     }
 
     private static void children() {
+        CHECK.promise(6);
         HandedDown x = Check.told("child 11 1 3;child 12 0 4;coat plain 11 2;boots plain 12 3;");
         due("size", x.child(0, 0), 11);
         due("low", x.child(0, 1), 1);
@@ -339,6 +354,7 @@ public final class TextTest {
     }
 
     private static void things() {
+        CHECK.promise(7);
         HandedDown x = Check.told("child 11 1 3;child 4 0 0;coat turned 11 2;boots kept 1 12 3;boots both 9 1;");
         int[][] want = {{0, 1, 11, 2, 0, 0, -4, -4}, {1, 4, 12, 3, 0, 0, 1, -4}, {1, 3, 9, 1, 0, 0, -4, -4}};
         for (int t = 0; t < 3; t++) {
@@ -362,6 +378,7 @@ public final class TextTest {
     }
 
     private static void slack() {
+        CHECK.promise(8);
         HandedDown x = Check.told("child 10 0 0;coat plain 14 5;");
         due("fits at 2", x.fits(0, 0), 0);
         due("slack 4", x.slack(4), 2);
@@ -378,6 +395,7 @@ public final class TextTest {
     }
 
     private static void liking() {
+        CHECK.promise(9);
         HandedDown x = Check.told("child 10 0 0;child 9 0 0;coat plain 14 5;coat plain 9 9;like 1 0 3;");
         due("like", x.like(1, 0, 9), 3);
         due("like", x.like(1, 0, 0), 9);

@@ -21,6 +21,7 @@ public final class WornTest {
     }
 
     private static void fitting() {
+        CHECK.promise(10);
         for (int slack = 0; slack <= 4; slack++) {
             HandedDown x = Check.told("child 20 0 0;coat plain 20 5;");
             x.slack(slack);
@@ -41,6 +42,7 @@ public final class WornTest {
     }
 
     private static void fittingKinds() {
+        CHECK.promise(10);
         HandedDown x = Check.told("child 20 0 0;child 20 0 0;coat plain 18 1;coat turned 18 1;coat let 18 1;"
             + "coat both 18 1;coat kept 1 18 1;coat kept 1 20 1;boots turned 20 1;boots both 20 1;boots plain 20 1;");
         int[] first = {0, 0, 2, 2, 0, 0, 1, 1, 1};
@@ -77,6 +79,7 @@ public final class WornTest {
     }
 
     private static void puttingOn() {
+        CHECK.promise(11);
         HandedDown x = Check.told("child 20 0 0;child 19 0 0;coat plain 20 5;coat plain 21 5;coat let 18 5;"
             + "boots plain 20 5;coat plain 9 9;");
         due("wear", x.wear(0, 0), -4);
@@ -102,6 +105,7 @@ public final class WornTest {
     }
 
     private static void puttingOnAgain() {
+        CHECK.promise(11);
         HandedDown x = Check.told("child 20 0 0;coat let 20 5;");
         x.wear(0, 0);
         due("the same again", x.wear(0, 0), 0);
@@ -115,6 +119,7 @@ public final class WornTest {
     }
 
     private static void takingOff() {
+        CHECK.promise(12);
         HandedDown x = Check.told("child 20 0 0;coat plain 20 5;boots plain 20 5;");
         due("nothing", x.doff(0, 0), -4);
         x.wear(0, 0);
@@ -131,6 +136,7 @@ public final class WornTest {
     }
 
     private static void cold() {
+        CHECK.promise(13);
         HandedDown x = Check.told("child 20 0 0;".repeat(3) + "coat plain 20 5;boots plain 20 5;");
         due("all", x.cold(0), 7);
         x.wear(1, 0);
@@ -142,6 +148,7 @@ public final class WornTest {
     }
 
     private static void deals() {
+        CHECK.promise(14);
         HandedDown x = Check.told("child 10 0 0;child 12 0 0;child 30 0 0;"
             + "coat plain 12 5;coat plain 10 5;boots plain 30 5;coat plain 9 9;");
         due("warm", x.deal(0, 0), 2);
@@ -165,6 +172,7 @@ public final class WornTest {
     }
 
     private static void dealsInOrder() {
+        CHECK.promise(14);
         HandedDown x = Check.told("child 10 0 0;child 10 0 0;child 10 0 0;coat plain 11 5;coat plain 10 5;");
         due("the first are warm", x.deal(0, 10), 0);
         due("the first are warm", x.deal(0, 11), 1);
@@ -208,6 +216,7 @@ public final class WornTest {
     }
 
     private static void dressing() {
+        CHECK.promise(15);
         HandedDown x = Check.told("child 10 0 0;child 10 0 0;coat plain 10 5;coat let 8 5;coat plain 12 5;boots plain 10 5;");
         x.wear(0, 2);
         x.wear(0, 3);
@@ -232,6 +241,7 @@ public final class WornTest {
     }
 
     private static void sparing() {
+        CHECK.promise(16);
         HandedDown x = Check.told("child 10 0 0;coat plain 9 5;coat plain 10 1;coat plain 11 1;boots plain 10 5;coat kept 0 30 5;");
         due("coats", x.spare(0), 1 + 4 + 16);
         due("boots", x.spare(1), 0);

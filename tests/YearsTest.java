@@ -16,6 +16,7 @@ public final class YearsTest {
     }
 
     private static void winters() {
+        CHECK.promise(17);
         HandedDown x = Check.told("child 10 0 0;child 10 0 0;coat plain 10 1;coat plain 10 2;coat plain 10 9;"
             + "boots turned 10 1;boots both 10 1;");
         x.wear(0, 0);
@@ -37,6 +38,7 @@ public final class YearsTest {
     }
 
     private static void springs() {
+        CHECK.promise(18);
         HandedDown x = Check.told("child 10 1 3;child 38 0 4;coat plain 11 9;coat let 39 9;boots plain 13 9;");
         x.wear(0, 0);
         x.wear(1, 1);
@@ -63,6 +65,7 @@ public final class YearsTest {
     }
 
     private static void aheads() {
+        CHECK.promise(19);
         HandedDown x = Check.told("child 10 1 2;child 9 1 2;coat plain 10 2;coat plain 12 9;boots plain 10 9;");
         // Slow: 10 and 9, 11 and 10 (thing 0 is worn out then), 12 and 11, 13 and 12.
         due("1", x.ahead(0, 1, false, 0), 0);
@@ -98,6 +101,7 @@ public final class YearsTest {
     }
 
     private static void aheadLettingOut() {
+        CHECK.promise(19);
         HandedDown x = Check.told("slack 0;child 10 1 2;coat let 10 9;");
         due("let out in the third", x.ahead(0, 4, false, 0), 2);
         due("let out in the second", x.ahead(0, 4, true, 0), 2);
@@ -113,6 +117,7 @@ public final class YearsTest {
     }
 
     private static void strongs() {
+        CHECK.promise(20);
         HandedDown x = Check.told("child 10 0 0;coat plain 10 1;boots turned 10 1;");
         for (int y = 1; y <= 4; y++) {
             due("plain " + y, x.strong(0, y, true), y);
