@@ -15,10 +15,14 @@ public final class BoundsTest {
         growing();
         fitting();
         putOnAndOff();
+        likingsAndSlack();
         deals();
+        dealsInOrder();
         years();
         strongest();
         cuts();
+        paying();
+        bestCuts();
         sewing();
         wishes();
         swaps();
@@ -326,6 +330,8 @@ public final class BoundsTest {
             x.wear(0, 0);
             x.slack(2);
             due("quick, of " + size, x.spring(true), size >= 22 ? 0 : 1);
+            due("who wears it", x.thing(0, 7), size >= 22 ? 0 : -4);
+            due("who wears nothing", x.cold(0), size >= 22 ? 0 : 1);
         }
     }
 
@@ -378,6 +384,10 @@ public final class BoundsTest {
         due("nobody wears it", x.thing(4, 7), -4);
         due("who wears it", x.thing(3, 7), 0);
         due("the other one is cold", x.child(1, 10), -4);
+        coldOnesAndDoffing(x);
+    }
+
+    private static void coldOnesAndDoffing(HandedDown x) {
         CHECK.promise(13);
         due("all but the first", x.cold(0), 254);
         due("all but the first", x.cold(1), 254);
@@ -394,7 +404,11 @@ public final class BoundsTest {
             x.wear(t, t);
         }
         due("three", x.cold(0), 224);
+    }
+
+    private static void likingsAndSlack() {
         CHECK.promise(9);
+        HandedDown x = Check.told(EIGHT + "coat plain 10 9;".repeat(10));
         due("the last for the last", x.like(7, 9, 9), 0);
         due("the last for the last", x.like(7, 9, 0), 9);
         due("nothing less", x.like(7, 9, -1), -1);
@@ -428,9 +442,12 @@ public final class BoundsTest {
         due("dress", x.dress(0), 0);
         due("no boots", x.dress(1), 8);
         due("the last", x.child(7, 10), 7);
+    }
+
+    private static void dealsInOrder() {
         // Each of seven gives his on, for the last one to be warm; the first ones have the least that is left.
         CHECK.promise(14);
-        x = Check.told("slack 1;child 10 0 0;child 11 0 0;child 12 0 0;child 13 0 0;child 14 0 0;child 15 0 0;"
+        HandedDown x = Check.told("slack 1;child 10 0 0;child 11 0 0;child 12 0 0;child 13 0 0;child 14 0 0;child 15 0 0;"
             + "child 16 0 0;child 10 0 0;coat plain 10 9;coat plain 11 9;coat plain 12 9;coat plain 13 9;"
             + "coat plain 14 9;coat plain 15 9;coat plain 16 9;coat plain 17 9;");
         due("all are warm", x.deal(0, 0), 8);
@@ -439,6 +456,20 @@ public final class BoundsTest {
         }
         due("child 0", x.deal(0, 10), 0);
         due("child 7", x.deal(0, 17), 1);
+        // There is one way alone: each of eight has another one than he would have without the last child.
+        dealt("slack 1;child 10 0 0;child 11 0 0;child 12 0 0;child 13 0 0;child 14 0 0;child 15 0 0;"
+            + "child 16 0 0;child 9 0 0;coat plain 10 9;coat plain 11 9;coat plain 12 9;coat plain 13 9;"
+            + "coat plain 14 9;coat plain 15 9;coat plain 16 9;coat plain 17 9;", 1, 2, 3, 4, 5, 6, 7, 0);
+        // Child 1 can have 0 alone; child 0 has the least of the rest.
+        dealt("slack 2;child 9 0 0;child 12 0 0;child 9 0 0;coat let 11 9;coat let 9 9;coat plain 10 9;", 1, 0, 2);
+        // Child 2 can have 0 alone.
+        dealt("slack 1;child 9 0 0;child 8 0 0;child 10 0 0;coat let 8 9;coat plain 9 9;coat plain 9 9;", 1, 2, 0);
+        // 3 and 5 can have 0 and 1 alone, 4 can have 2 and 3: 1 has 2, so that 4 has 3.
+        dealt("slack 1;child 8 0 0;child 10 0 0;child 10 0 0;child 9 0 0;child 13 0 0;child 9 0 0;coat plain 10 9;"
+            + "coat let 10 9;coat let 11 9;coat plain 13 9;coat plain 11 9;coat plain 11 9;", -4, 2, 4, 0, 3, 1);
+        // All five are worn: the kept one by its heir alone, 3 by child 0 or 2; 4 and 5 are behind 2 and 3.
+        dealt("slack 2;child 11 0 0;child 9 0 0;child 11 0 0;child 9 0 0;child 13 0 0;child 9 0 0;coat let 9 9;"
+            + "coat plain 13 9;coat plain 10 9;coat plain 12 9;coat kept 1 11 9;", 0, 4, 3, 2, 1, -4);
         // Of ten things the last one alone is for the last child.
         x = Check.told(EIGHT.replaceFirst("(.*)child 10", "$1child 30") + "coat plain 10 9;".repeat(9) + "coat plain 30 9;");
         due("the last", x.deal(0, 17), 9);
@@ -449,6 +480,21 @@ public final class BoundsTest {
         due("the last wears the last", x.child(7, 10), 9);
         CHECK.promise(7);
         due("the last is worn by the last", x.thing(9, 7), 7);
+    }
+
+    private static void dealt(String text, int... byChild) {
+        HandedDown x = Check.told(text);
+        int warm = 0;
+        for (int c = 0; c < byChild.length; c++) {
+            due("child " + c + " of " + text, x.deal(0, 10 + c), byChild[c]);
+            warm += byChild[c] < 0 ? 0 : 1;
+        }
+        due("warm of " + text, x.deal(0, 0), warm);
+        due("new of " + text, x.deal(0, 1), byChild.length - warm);
+        due("dress of " + text, x.dress(0), byChild.length - warm);
+        for (int c = 0; c < byChild.length; c++) {
+            due("child " + c + " is dressed of " + text, x.child(c, 10), byChild[c]);
+        }
     }
 
     // ---- promises 19 to 25
@@ -476,6 +522,11 @@ public final class BoundsTest {
         due("four winters of coats", x.ahead(0, 4, false, 0), 0);
         due("two winters of boots", x.ahead(1, 2, false, 0), 0);
         due("the third is cold", x.ahead(1, 3, false, 12), 1);
+        // The first deal is 1, 0, 3, by the things: so 2, that is kept, is there for the second one.
+        x = Check.told("child 10 0 0;child 8 0 0;child 11 3 3;coat plain 10 1;coat plain 11 1;coat kept 0 12 1;"
+            + "coat plain 13 1;");
+        due("the second", x.ahead(0, 2, false, 11), 2);
+        due("both", x.ahead(0, 2, false, 0), 2);
         // What is worn by now is dealt to another, too.
         x = Check.told("child 12 0 0;child 10 0 0;coat plain 12 9;coat plain 14 9;");
         x.wear(1, 0);
@@ -532,8 +583,11 @@ public final class BoundsTest {
         due("0 of 1", x.cut(1, 0), -1);
         due("39 of 40", x.cut(2, 39), 40);
         due("1 of 39", x.cut(2, 1), 39);
+    }
+
+    private static void paying() {
         CHECK.promise(22);
-        x = Check.told("child 37 0 0;coat plain 40 9;boots plain 40 9;slack 2;");
+        HandedDown x = Check.told("child 37 0 0;coat plain 40 9;boots plain 40 9;slack 2;");
         due("39 of 40", x.pays(0, 4, false, 0), 39);
         due("new", x.pays(0, 4, false, 1), 0);
         due("boots", x.pays(1, 1, true, 0), 39);
@@ -549,9 +603,17 @@ public final class BoundsTest {
         // Just as many as without it is not fewer.
         x = Check.told("child 10 0 0;child 20 0 0;coat plain 20 9;");
         due("no more than one is warm", x.pays(0, 4, false, 0), -4);
+        // Of size 0 it would fit by 2 more, and never child 0, who takes it from child 1: but there is no such size.
+        x = Check.told("slack 0;child 3 1 1;child 2 0 0;coat let 2 9;coat plain 3 1;");
+        due("as it is", x.ahead(0, 3, false, 0), 3);
+        due("1 is the least", x.pays(0, 3, false, 0), -4);
+        due("1 is the least", x.best(0, 3, false, 0), -4);
+    }
+
+    private static void bestCuts() {
         // The last of ten.
         CHECK.promise(23);
-        x = Check.told("child 37 0 0;" + "coat plain 5 9;".repeat(9) + "coat plain 40 9;");
+        HandedDown x = Check.told("child 37 0 0;" + "coat plain 5 9;".repeat(9) + "coat plain 40 9;");
         due("the last one", x.best(0, 4, false, 0), 939);
         due("new", x.best(0, 4, false, 1), 0);
         due("no boots", x.best(1, 4, false, 0), -4);
@@ -740,10 +802,15 @@ public final class BoundsTest {
             due("mark " + k, x.rows(10 + k), k < 5 ? k + 1 : 0);
         }
         due("no mark 6", x.rows(16), -1);
+        whose(x);
+        firstRows();
+    }
+
+    private static void whose(HandedDown sixth) {
         CHECK.promise(32);
-        due("the first", x.whose(0), 254);
-        due("the last", x.whose(1), 1);
-        x = Check.told("slack 0;child 21 4 4;" + "child 5 0 0;".repeat(7) + "mark 5;".repeat(5) + "mark 40;");
+        due("the first", sixth.whose(0), 254);
+        due("the last", sixth.whose(1), 1);
+        HandedDown x = Check.told("slack 0;child 21 4 4;" + "child 5 0 0;".repeat(7) + "mark 5;".repeat(5) + "mark 40;");
         due("never more than 40", x.whose(1), 1);
         x = Check.told("slack 0;child 19 4 4;" + "child 5 0 0;".repeat(7) + "mark 5;".repeat(5) + "mark 40;");
         due("39 is not 40", x.whose(1), 0);
@@ -754,7 +821,29 @@ public final class BoundsTest {
         due("by slack", x.whose(0), 1);
         x.slack(3);
         due("not by less", x.whose(0), 0);
+        // Asked again, when the marks are others: there is no row ahead of the last mark now.
+        x = Check.told("slack 0;child 10 0 0;child 14 0 0;child 20 0 0;mark 10;mark 14;");
+        due("the last", x.whose(1), 2);
+        x.unmark(0);
+        x.mark(30);
+        x.mark(14);
+        due("no first", x.whose(0), 0);
+        due("no last", x.whose(1), 0);
+        x.unmark(0);
+        x.mark(20);
+        x.mark(14);
+        due("another first", x.whose(0), 4);
+        due("the last again", x.whose(1), 2);
+    }
+
+    private static void firstRows() {
         CHECK.promise(31);
+        // Child 1 could be first, but only child 2 leaves one for the second mark.
+        HandedDown x = Check.told("slack 0;child 30 0 0;child 10 0 0;child 10 4 4;mark 10;mark 10;");
+        due("one row", x.rows(0), 1);
+        due("its first", x.rows(10), 2);
+        due("its second", x.rows(11), 1);
+        x = Check.told("slack 1;child 1 0 0;mark 3;");
         due("no row", x.rows(0), 0);
         due("a mark and no child", Check.told("mark 5;").rows(10), -4);
         due("no mark and no child", new HandedDown().rows(10), -1);

@@ -111,7 +111,7 @@ public final class OracleTest {
 
     private String wholeText() {
         StringBuilder text = new StringBuilder();
-        int kids = 2 + upTo(6);
+        int kids = 1 + upTo(8);
         for (int i = 0; i < kids; i++) {
             int low = upTo(3);
             text.append("child ").append(size()).append(' ').append(low).append(' ')
